@@ -528,11 +528,14 @@ public final class LatinRectangles {
         }
 
         int usesOf(int symbol) {
+            // empty cells hold NONE, which is no symbol to count
+            if (symbol < 0) {
+                return 0;
+            }
             int number = 0;
             for (int row = 0; row < rows; row++) {
                 for (int column = 0; column < columns; column++) {
-                    // an empty cell holds NONE, which is no symbol to count
-                    if (symbol >= 0 && cells[row * SIDE + column] == symbol) {
+                    if (cells[row * SIDE + column] == symbol) {
                         number++;
                     }
                 }

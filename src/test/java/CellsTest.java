@@ -90,6 +90,11 @@ public final class CellsTest {
         isForced(all, 0, 0, 0, 2, 1);
         LatinRectangles both = Texts.of("rectangle 3 3;ban 0 1 2;ban 0 2 2;ban 1 0 1;ban 2 0 1;");
         isForced(both, 0, 0, 0, 2, 2);
+        // symbol 0 alone, and a symbol that the next cell of the column has, but the last one has not
+        isForced(Texts.of("rectangle 2 3;ban 0 1 0;ban 0 2 0;"), 0, 0, 0, 0, 2);
+        isForced(Texts.of("rectangle 3 3;ban 0 0 0;ban 1 0 0;"), 0, 2, 0, 0, 3);
+        Check.same("another cell of the column has it", Texts.of("rectangle 3 3;ban 2 0 2;").forcedCells(), 0);
+        Check.same("another cell of the row has it", Texts.of("rectangle 2 3;ban 0 2 2;").forcedCells(), 0);
         // a cell without candidates is not forced
         LatinRectangles dead = Texts.of("rectangle 1 2;ban 0 0 0;ban 0 0 1;ban 0 1 0;");
         Check.same("a dead cell is not forced", dead.forcedCells(), 1);
@@ -142,6 +147,7 @@ public final class CellsTest {
         Check.same("uses(1)", x.uses(1), 3);
         Check.same("uses(3)", x.uses(3), 2);
         Check.same("uses(4)", x.uses(4), 0);
+        Check.same("uses(4) of the greatest", Texts.filled("rectangle 5 5;", "....4", "4....", ".4...", "..4..", "...4.").uses(4), 5);
         Check.same("uses(-1)", x.uses(-1), 0);
         Check.same("uses(MIN)", x.uses(Integer.MIN_VALUE), 0);
         Check.same("uses(33)", x.uses(33), 0);

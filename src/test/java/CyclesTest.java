@@ -50,6 +50,13 @@ public final class CyclesTest {
         hasCycles(x, new int[][] {
             {2, 0, 1, 0}, {2, 0, 1, 2}, {2, 0, 2, 0}, {2, 0, 2, 1}, {2, 0, 3, 0}, {2, 0, 3, 1},
             {2, 1, 2, 0}, {2, 1, 2, 1}, {2, 1, 3, 0}, {2, 1, 3, 1}, {2, 2, 3, 0}, {2, 2, 3, 2}});
+        hasCycles(cyclic(), new int[][] {
+            {5, 0, 1, 0}, {5, 0, 2, 0}, {5, 0, 3, 0}, {5, 0, 4, 0}, {5, 1, 2, 0},
+            {5, 1, 3, 0}, {5, 1, 4, 0}, {5, 2, 3, 0}, {5, 2, 4, 0}, {5, 3, 4, 0}});
+    }
+
+    private static LatinRectangles cyclic() {
+        return Texts.filled("rectangle 5 5;", "01234", "12340", "23401", "34012", "40123");
     }
 
     private static void hasCycles(LatinRectangles x, int[][] due) {
@@ -75,6 +82,7 @@ public final class CyclesTest {
         Check.same("a cell missing", Texts.filled("rectangle 3 4;", "0..3", "....", "3...").intercalates(), 0);
         Check.same("half of one", Texts.filled("rectangle 2 3;", "01.", "20.").intercalates(), 0);
         Check.same("the other half", Texts.filled("rectangle 2 3;", "01.", "12.").intercalates(), 0);
+        Check.same("side 5", cyclic().intercalates(), 0);
         Check.same("mixed", mixed().intercalates(), 2);
     }
 }

@@ -120,6 +120,12 @@ public final class ParseTest {
         fails("   \n ", 1, 5);
         fails("rectangles 2 2;", 1, 0);
         fails(" rectangl 2 2;", 1, 1);
+        fails("sectangle 2 2;", 1, 0);
+        fails("rectanglf 2 2;", 1, 0);
+        fails("rectangle 2 2;fan 0 0 0;", 1, 14);
+        fails("rectangle 2 2;bad 0 0 0;", 1, 14);
+        fails("rectangle 19 2;", 3, 10);
+        fails("rectangle 2 20;", 3, 12);
         fails("Rectangle 2 2;", 1, 0);
         fails("rectangle 002 2;", 1, 10);
         fails("rectangle 2 100;", 1, 12);
@@ -261,6 +267,10 @@ public final class ParseTest {
         hasSizes("a full row", x, 3, 4, 6, 2, 3, 1, 1);
         x.fillRow(1);
         hasSizes("two full rows", x, 3, 4, 8, 2, 3, 1, 2);
+        LatinRectangles most = Texts.filled("rectangle 5 5;ban 4 0 4;ban 4 0 0;", "01234", "12340", "23401", "34012", ".0123");
+        hasSizes("the greatest", most, 5, 5, 24, 0, 2, 1, 4);
+        most.undo();
+        hasSizes("the last cell empty too", most, 5, 5, 23, 0, 2, 1, 4);
         Check.throwsArgument("size(7)", () -> x.size(7));
         Check.throwsArgument("size(-1)", () -> x.size(-1));
         Check.throwsArgument("size(MAX)", () -> x.size(Integer.MAX_VALUE));

@@ -58,6 +58,16 @@ public final class TransversalsTest {
         for (int row = 0; row < 4; row++) {
             Check.same("none: firstTransversal(" + row + ")", none.firstTransversal(row), -1);
         }
+        LatinRectangles five = Texts.filled("rectangle 5 5;", "01234", "12340", "23401", "34012", "40123");
+        for (int row = 0; row < 5; row++) {
+            Check.same("side 5: firstTransversal(" + row + ")", five.firstTransversal(row), row);
+        }
+        five.empty(4, 4);
+        five.empty(4, 0);
+        five.empty(4, 1);
+        five.empty(4, 2);
+        five.empty(4, 3);
+        Check.same("no cell in the last row", five.firstTransversal(0), -1);
         LatinRectangles part = Texts.filled("rectangle 2 3;", ".01", "1.0");
         // (0,1) with 0 has (1,0) with 1
         Check.same("an empty cell is skipped", part.firstTransversal(0), 1);
@@ -76,6 +86,8 @@ public final class TransversalsTest {
         Check.same("klein", klein().longestTransversal(), 4);
         Check.same("cyclic", cyclic().longestTransversal(), 3);
         Check.same("empty", new LatinRectangles().longestTransversal(), 0);
+        Check.same("side 5",
+            Texts.filled("rectangle 5 5;", "01234", "12340", "23401", "34012", "40123").longestTransversal(), 5);
         Check.same("2 x 2", Texts.filled("rectangle 2 2;", "01", "10").longestTransversal(), 1);
         Check.same("the first row left out", Texts.filled("rectangle 3 3;", "...", "0..", ".1.").longestTransversal(), 2);
         Check.same("one symbol", Texts.filled("rectangle 3 3;", "0..", ".0.", "..0").longestTransversal(), 1);
