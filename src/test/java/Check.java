@@ -6,8 +6,14 @@ final class Check {
 
     private static int made = 0;
     private static int wrong = 0;
+    private static String sentence = "";
 
     private Check() {
+    }
+
+    /** The document's sentence that the next checks are for: a wrong answer is told with it. */
+    static void sentence(String words) {
+        sentence = words;
     }
 
     static void same(String what, long got, long due) {
@@ -50,7 +56,7 @@ final class Check {
 
     static void wrong(String what) {
         wrong++;
-        System.out.println(what);
+        System.out.println(sentence.isEmpty() ? what : "[" + sentence + "] " + what);
     }
 
     static void end() {

@@ -43,6 +43,24 @@ final class Texts {
         return x;
     }
 
+    /** Empties the cells of these rows and fills them anew. */
+    static void refill(LatinRectangles x, String... rows) {
+        for (int row = 0; row < rows.length; row++) {
+            for (int column = 0; column < rows[row].length(); column++) {
+                if (x.symbol(row, column) != LatinRectangles.NONE) {
+                    x.empty(row, column);
+                }
+            }
+        }
+        for (int row = 0; row < rows.length; row++) {
+            for (int column = 0; column < rows[row].length(); column++) {
+                if (rows[row].charAt(column) != '.') {
+                    x.fill(row, column, rows[row].charAt(column) - '0');
+                }
+            }
+        }
+    }
+
     static void hasRow(String what, LatinRectangles x, int row, String signs) {
         for (int column = 0; column < signs.length(); column++) {
             char sign = signs.charAt(column);

@@ -50,47 +50,30 @@ public final class TradesTest {
         // the rows keep their sets, the columns do not
         LatinRectangles rows = Texts.filled("rectangle 1 3;", "012");
         rows.saveSnapshot(0);
-        refill(rows, "102");
+        Texts.refill(rows, "102");
         Check.isFalse("columns differ", rows.isTrade(0));
         Check.same("two cells", rows.tradeSize(0), 2);
         // the columns keep their sets, the rows do not
         LatinRectangles columns = Texts.filled("rectangle 2 3;", "0..", "1..");
         columns.saveSnapshot(0);
-        refill(columns, "1..", "0..");
+        Texts.refill(columns, "1..", "0..");
         Check.isFalse("rows differ", columns.isTrade(0));
         // another symbol
         LatinRectangles symbol = Texts.filled("rectangle 2 3;", "0..");
         symbol.saveSnapshot(0);
-        refill(symbol, "2..");
+        Texts.refill(symbol, "2..");
         Check.isFalse("a symbol differs", symbol.isTrade(0));
         // a trade of three rows and three columns that no cycle makes
         LatinRectangles whole = Texts.filled("rectangle 3 3;", "012", "120", "201");
         whole.saveSnapshot(0);
-        refill(whole, "120", "201", "012");
+        Texts.refill(whole, "120", "201", "012");
         Check.isTrue("rows turned", whole.isTrade(0));
         // in the last row and column alone
         LatinRectangles last = Texts.filled("rectangle 5 5;", ".....", ".....", ".....", "...01", "...10");
         last.saveSnapshot(0);
-        refill(last, ".....", ".....", ".....", "...10", "...01");
+        Texts.refill(last, ".....", ".....", ".....", "...10", "...01");
         Check.isTrue("the last cells", last.isTrade(0));
-        refill(last, ".....", ".....", ".....", "...10", "...02");
+        Texts.refill(last, ".....", ".....", ".....", "...10", "...02");
         Check.isFalse("the last cells spoilt", last.isTrade(0));
-    }
-
-    private static void refill(LatinRectangles x, String... rows) {
-        for (int row = 0; row < rows.length; row++) {
-            for (int column = 0; column < rows[row].length(); column++) {
-                if (x.symbol(row, column) != LatinRectangles.NONE) {
-                    x.empty(row, column);
-                }
-            }
-        }
-        for (int row = 0; row < rows.length; row++) {
-            for (int column = 0; column < rows[row].length(); column++) {
-                if (rows[row].charAt(column) != '.') {
-                    x.fill(row, column, rows[row].charAt(column) - '0');
-                }
-            }
-        }
     }
 }
