@@ -350,6 +350,12 @@ public final class EdgesOfCyclesTest {
                 Check.isTrue("a trade again", x.isTrade(0));
             }
         }
+        // rows and columns keep their symbols, but each of these cells is empty now or there
+        LatinRectangles moved = Texts.filled("rectangle 2 2;", "0.", ".0");
+        moved.saveSnapshot(0);
+        Texts.refill(moved, ".0", "0.");
+        Check.isFalse("a symbol moved into empty cells", moved.isTrade(0));
+        Check.same("a symbol moved into empty cells", moved.tradeSize(0), 4);
         // cells that are empty now and there are no hindrance
         LatinRectangles part = Texts.filled("rectangle 3 3;", "01.", "10.");
         part.saveSnapshot(0);
