@@ -198,6 +198,21 @@ public final class EdgesOfChangesTest {
             Check.same("one more", x.undo(), -1);
             Check.same("filled cells", x.size(2), changes - most);
         }
+        // changes that fill no cell take their places among the ten too
+        LatinRectangles x = Texts.of("rectangle 5 5;");
+        x.fillRow(0);
+        x.fillRow(1);
+        Check.same("propagate, which fills nothing", x.propagate(), 0);
+        for (int n = 0; n < 8; n++) {
+            Check.same("fillRow of a full row", x.fillRow(0), 0);
+        }
+        for (int left = 9; left > 0; left--) {
+            Check.same("undo", x.undo(), left);
+            Check.same("nothing to be seen of it", x.size(2), 10);
+        }
+        Check.same("undo of the second row", x.undo(), 0);
+        Check.same("filled cells", x.size(2), 5);
+        Check.same("the first row was the eleventh", x.undo(), -1);
     }
 
     private static LatinRectangles five() {
